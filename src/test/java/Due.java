@@ -31,6 +31,12 @@ final class Due {
         is(call, 0, () -> got ? 1 : 0);
     }
 
+    void logIs(LogBook book, int first, int forced, int end) {
+        is("FIRST", first, () -> book.log(0));
+        is("FORCED", forced, () -> book.log(1));
+        is("END", end, () -> book.log(2));
+    }
+
     /** The very class is asked for: the machine's own exceptions are subclasses of these. */
     void fails(String call, Class<? extends RuntimeException> want, Act act) {
         asked++;
