@@ -1,6 +1,6 @@
 import java.util.NoSuchElementException;
 
-/** Promises 1 and 4: a new book, and append. */
+/** Promises 1 and 4: a new book, and append; for its room, see RoomTest. */
 public final class AppendTest {
     private static final Due DUE = new Due();
 
@@ -11,8 +11,6 @@ public final class AppendTest {
         wrongArguments();
         onePreviousForEachOwner();
         previousIsNoneWhenGivenBackOrVoid();
-        room();
-        refusedBeforeRoomIsLookedAt();
         ringOfPlaces();
         closedBook();
         DUE.end();
@@ -138,44 +136,9 @@ public final class AppendTest {
         DUE.is("the one before, when a later one is lost", kept, () -> d.of(u, 2));
     }
 
-    /** 319 * 205 = 65395, so 141 words are left: one record of 136, or less. */
-    private static LogBook nearlyFull() {
-        LogBook b = new LogBook();
-        for (int i = 0; i < 319; i++) {
-            b.append(0, 0, -1, 200);
-        }
-        return b;
-    }
-
-    private static void room() {
-        LogBook b = nearlyFull();
-        DUE.is("append n 137", -1, () -> b.append(0, 1, -1, 137));
-        DUE.is("END behind no room", 65395, () -> b.log(2));
-        DUE.is("lastOf behind no room", -1, () -> b.lastOf(1));
-        DUE.is("append n 136", 65395, () -> b.append(0, 1, -1, 136));
-        DUE.is("END, full", 65536, () -> b.log(2));
-        DUE.is("append n 0, full", -1, () -> b.append(0, 0, -1, 0));
-        DUE.is("count, full", 320, b::count);
-        DUE.is("forceAll, full", 65536, b::forceAll);
-        DUE.is("append n 0, full and forced", -1, () -> b.append(0, 0, -1, 0));
-        DUE.is("giveBack(205)", 205, () -> b.giveBack(205));
-        DUE.is("append n 200 in what was given back", 65536, () -> b.append(0, 0, -1, 200));
-        DUE.is("append n 0, full again", -1, () -> b.append(0, 0, -1, 0));
-    }
-
-    private static void refusedBeforeRoomIsLookedAt() {
-        LogBook b = nearlyFull();
-        b.append(0, 0, -1, 136);
-        refused(b, 16, 0, -1, 200);
-        refused(b, 0, 0, 65536, 200);
-        DUE.is("a link to the last place", -1, () -> b.append(0, 0, 65535, 200));
-    }
-
     /** Places go on past 65536 when the oldest are given back; no record is mixed with another. */
     private static void ringOfPlaces() {
-        LogBook b = nearlyFull();
-        b.forceAll();
-        b.giveBack(300 * 205);
+        LogBook b = Books.nearTheRingsEnd(65395);
         for (int i = 0; i < 12; i++) {
             b.set(i, 1000 + i);
             int s = b.append(i, i % 8, 65394 + i, 100 + i);

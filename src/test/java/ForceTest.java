@@ -19,17 +19,8 @@ public final class ForceTest {
         DUE.end();
     }
 
-    /** Records of 8, 5 and 7 words: serials 0, 8 and 13; END is 20. */
-    private static LogBook three() {
-        LogBook b = new LogBook();
-        b.append(1, 0, -1, 3);
-        b.append(2, 1, -1, 0);
-        b.append(3, 0, -1, 2);
-        return b;
-    }
-
     private static void forceUpToARecord() {
-        LogBook b = three();
+        LogBook b = Books.three();
         DUE.is("lastForced() of nothing forced", -1, b::lastForced);
         DUE.is("force(8)", 13, () -> b.force(8));
         DUE.logIs(b, 0, 13, 20);
@@ -46,7 +37,7 @@ public final class ForceTest {
     }
 
     private static void forceOfNoRecord() {
-        LogBook b = three();
+        LogBook b = Books.three();
         for (int s : new int[] {-1, 1, 7, 9, 12, 19, 20, 21, Integer.MIN_VALUE, Integer.MAX_VALUE}) {
             DUE.fails("force(" + s + ")", NoSuchElementException.class, () -> b.force(s));
         }
@@ -54,7 +45,7 @@ public final class ForceTest {
     }
 
     private static void forceAll() {
-        LogBook b = three();
+        LogBook b = Books.three();
         DUE.is("forceAll()", 20, b::forceAll);
         DUE.logIs(b, 0, 20, 20);
         DUE.is("forceAll() again", 0, b::forceAll);
@@ -65,7 +56,7 @@ public final class ForceTest {
 
     private static void failureWhileForcing() {
         for (int n = 0; n < 25; n++) {
-            LogBook b = three();
+            LogBook b = Books.three();
             b.cutAfter(n);
             int words = n;
             boolean fails = n < 20;
@@ -73,7 +64,7 @@ public final class ForceTest {
             DUE.is("isOpen()", fails ? 0 : 1, () -> b.isOpen() ? 1 : 0);
             DUE.logIs(b, 0, fails ? words : 20, fails ? words : 20);
         }
-        LogBook b = three();
+        LogBook b = Books.three();
         b.cutAfter(13);
         DUE.is("force(8) with 13 words", 13, () -> b.force(8));
         DUE.is("force(8) with no word left, nothing to write", 0, () -> b.force(8));
@@ -84,7 +75,7 @@ public final class ForceTest {
     }
 
     private static void failureBetweenRecords() {
-        LogBook b = three();
+        LogBook b = Books.three();
         b.cutAfter(13);
         DUE.is("forceAll()", -1, b::forceAll);
         DUE.is("open(), nothing begun", 0, b::open);
@@ -95,7 +86,7 @@ public final class ForceTest {
     }
 
     private static void lastForcedPassesOverVoid() {
-        LogBook b = three();
+        LogBook b = Books.three();
         b.cutAfter(9);
         b.forceAll();
         DUE.is("open()", 4, b::open);
@@ -107,7 +98,7 @@ public final class ForceTest {
     }
 
     private static void giveBack() {
-        LogBook b = three();
+        LogBook b = Books.three();
         b.forceAll();
         DUE.is("giveBack(0)", 0, () -> b.giveBack(0));
         DUE.is("giveBack(8)", 8, () -> b.giveBack(8));
@@ -120,7 +111,7 @@ public final class ForceTest {
         DUE.fails("giveBack(0), given back", NoSuchElementException.class, () -> b.giveBack(0));
         DUE.fails("next(0), given back", NoSuchElementException.class, () -> b.next(0));
         DUE.is("giveBack(13)", 5, () -> b.giveBack(13));
-        DUE.is("lastOf(1), given back", -1, () -> b.lastOf(1));
+        DUE.is("lastOf(7), given back", -1, () -> b.lastOf(7));
         DUE.is("lastForced()", 13, b::lastForced);
         DUE.logIs(b, 13, 20, 20);
         b.cut();
@@ -130,7 +121,7 @@ public final class ForceTest {
     }
 
     private static void giveBackOverVoid() {
-        LogBook b = three();
+        LogBook b = Books.three();
         b.cutAfter(10);
         b.forceAll();
         b.open();
@@ -143,7 +134,7 @@ public final class ForceTest {
     }
 
     private static void giveBackOfWhatIsNotForced() {
-        LogBook b = three();
+        LogBook b = Books.three();
         b.force(0);
         DUE.fails("giveBack(8), not forced", IllegalStateException.class, () -> b.giveBack(8));
         DUE.fails("giveBack(13), not forced", IllegalStateException.class, () -> b.giveBack(13));
@@ -155,7 +146,7 @@ public final class ForceTest {
     }
 
     private static void giveBackWritesNothing() {
-        LogBook b = three();
+        LogBook b = Books.three();
         b.forceAll();
         b.cutAfter(0);
         DUE.is("giveBack(13)", 13, () -> b.giveBack(13));
@@ -165,7 +156,7 @@ public final class ForceTest {
     }
 
     private static void closedBook() {
-        LogBook b = three();
+        LogBook b = Books.three();
         b.force(8);
         b.cut();
         DUE.fails("force(0)", IllegalStateException.class, () -> b.force(0));

@@ -19,18 +19,8 @@ public final class ReadTest {
         DUE.end();
     }
 
-    /** Records of 8, 5 and 7 words: serials 0, 8 and 13; END is 20. */
-    private static LogBook three() {
-        LogBook b = new LogBook();
-        b.fill(100, 1);
-        b.append(1, 0, -1, 3);
-        b.append(15, 7, 6, 0);
-        b.append(3, 0, 8, 2);
-        return b;
-    }
-
     private static void forwardAndBackward() {
-        LogBook b = three();
+        LogBook b = Books.three();
         DUE.is("first()", 0, b::first);
         DUE.is("last()", 13, b::last);
         DUE.is("count()", 3, b::count);
@@ -43,7 +33,7 @@ public final class ReadTest {
     }
 
     private static void fieldsAndWords() {
-        LogBook b = three();
+        LogBook b = Books.three();
         int[][] want = {{0, 1, 0, -1, -1, 3}, {8, 15, 7, -1, 6, 0}, {13, 3, 0, 0, 8, 2}};
         for (int[] row : want) {
             for (int what = 0; what < 5; what++) {
@@ -72,7 +62,7 @@ public final class ReadTest {
     }
 
     private static void noSuchRecord() {
-        LogBook b = three();
+        LogBook b = Books.three();
         for (int s : NO_SERIALS) {
             DUE.fails("next(" + s + ")", NoSuchElementException.class, () -> b.next(s));
             DUE.fails("before(" + s + ")", NoSuchElementException.class, () -> b.before(s));
@@ -84,7 +74,7 @@ public final class ReadTest {
     }
 
     private static void wrongIndexes() {
-        LogBook b = three();
+        LogBook b = Books.three();
         for (int what : new int[] {-1, 5, 6, Integer.MIN_VALUE, Integer.MAX_VALUE}) {
             DUE.fails("of(8, " + what + ")", IndexOutOfBoundsException.class, () -> b.of(8, what));
         }
@@ -96,7 +86,7 @@ public final class ReadTest {
     }
 
     private static void owners() {
-        LogBook b = three();
+        LogBook b = Books.three();
         int[] want = {13, -1, -1, -1, -1, -1, -1, 8};
         for (int i = 0; i < 8; i++) {
             int owner = i;
@@ -108,7 +98,7 @@ public final class ReadTest {
     }
 
     private static void voidRecordsArePassedOver() {
-        LogBook b = three();
+        LogBook b = Books.three();
         b.cutAfter(12);
         b.forceAll();
         b.open();
@@ -130,7 +120,7 @@ public final class ReadTest {
     }
 
     private static void onlyVoidRecords() {
-        LogBook b = three();
+        LogBook b = Books.three();
         b.cutAfter(1);
         b.forceAll();
         b.open();
@@ -163,7 +153,7 @@ public final class ReadTest {
     }
 
     private static void closedBook() {
-        LogBook b = three();
+        LogBook b = Books.three();
         b.forceAll();
         b.cut();
         DUE.fails("first()", IllegalStateException.class, b::first);
