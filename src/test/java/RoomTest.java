@@ -312,24 +312,27 @@ public final class RoomTest {
         DUE.is("count() without the void one", 319, b::count);
     }
 
-    /** 105 in every old word: what lies where the begun record would end looks like its end. */
+    /** Old words that look like the end of a begun record, or like the length of one at END. */
     private static void oldWordsAreNotRead() {
-        LogBook b = new LogBook();
-        b.fill(105, 0);
-        Books.addWords(b, ROOM);
-        b.forceAll();
-        b.giveBack(OLDEST);
-        b.append(0, 0, -1, 100);
-        b.cutAfter(1);
-        DUE.is("forceAll()", -1, b::forceAll);
-        DUE.is("open()", 104, b::open);
-        DUE.logIs(b, OLDEST, ROOM + 105, ROOM + 105);
-        b.cut();
-        DUE.is("open() again", 0, b::open);
-        DUE.fails("next of the void one", NoSuchElementException.class, () -> b.next(ROOM));
-        DUE.is("append", ROOM + 105, () -> b.append(1, 1, -1, 200));
-        for (int i : new int[] {0, 99, 199}) {
-            DUE.is("word " + i, 0, () -> b.word(ROOM + 105, i));
+        for (int old : new int[] {105, -105, 5, -5, 1, -1, 0, Integer.MAX_VALUE, Integer.MIN_VALUE}) {
+            LogBook b = new LogBook();
+            b.fill(old, 0);
+            Books.addWords(b, ROOM);
+            b.forceAll();
+            b.giveBack(OLDEST);
+            b.append(0, 0, -1, 100);
+            b.cutAfter(1);
+            DUE.is("forceAll()", -1, b::forceAll);
+            DUE.is("open(), old words " + old, 104, b::open);
+            DUE.logIs(b, OLDEST, ROOM + 105, ROOM + 105);
+            b.cut();
+            DUE.is("open() again, old words " + old, 0, b::open);
+            DUE.fails("next of the void one", NoSuchElementException.class, () -> b.next(ROOM));
+            DUE.fails("next of END", NoSuchElementException.class, () -> b.next(ROOM + 105));
+            DUE.is("append", ROOM + 105, () -> b.append(1, 1, -1, 200));
+            for (int i : new int[] {0, 99, 199}) {
+                DUE.is("word " + i, 0, () -> b.word(ROOM + 105, i));
+            }
         }
     }
 }
