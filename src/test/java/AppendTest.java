@@ -5,7 +5,8 @@ public final class AppendTest {
     private static final Due DUE = new Due();
 
     public static void main(String[] args) {
-        newBook();
+        newBook(new LogBook());
+        newBookBesideOthers();
         serialsAndLengths();
         edgesOfTheArguments();
         wrongArguments();
@@ -16,8 +17,7 @@ public final class AppendTest {
         DUE.end();
     }
 
-    private static void newBook() {
-        LogBook b = new LogBook();
+    private static void newBook(LogBook b) {
         DUE.yes("isOpen()", b.isOpen());
         DUE.is("first()", -1, b::first);
         DUE.is("last()", -1, b::last);
@@ -36,6 +36,27 @@ public final class AppendTest {
         DUE.fails("next(0)", NoSuchElementException.class, () -> b.next(0));
         DUE.fails("next(-1)", NoSuchElementException.class, () -> b.next(-1));
         DUE.fails("open()", IllegalStateException.class, b::open);
+    }
+
+    /** Nothing is shared: what was done with one book shows in no other, older or newer. */
+    private static void newBookBesideOthers() {
+        LogBook older = new LogBook();
+        LogBook used = Books.three();
+        used.force(8);
+        used.giveBack(8);
+        used.cutAfter(3);
+        newBook(older);
+        newBook(new LogBook());
+        used.fill(7, 7);
+        DUE.is("append to the older book", 0, () -> older.append(9, 7, -1, 200));
+        DUE.is("its word, the buffer of another book being filled", 0, () -> older.word(0, 199));
+        DUE.is("forceAll() of the older book", 205, older::forceAll);
+        older.cut();
+        DUE.yes("isOpen() of the used one", used.isOpen());
+        DUE.logIs(used, 8, 13, 20);
+        DUE.is("word(13, 0) of the used one", 100, () -> used.word(13, 0));
+        DUE.is("forceAll() of the used one", -1, used::forceAll);
+        DUE.logIs(used, 8, 16, 16);
     }
 
     private static void serialsAndLengths() {

@@ -3,6 +3,8 @@ import java.lang.reflect.Field;
 import java.lang.reflect.Method;
 import java.lang.reflect.Modifier;
 import java.util.Arrays;
+import java.util.HashSet;
+import java.util.Set;
 import java.util.TreeSet;
 
 /** The members that others see are those of the document, with their throws clauses in its order. */
@@ -51,6 +53,29 @@ public final class FaceTest {
         due.is("NONE", -1, () -> LogBook.NONE);
         for (String member : wanted) due.yes("the face has " + member, seen.contains(member));
         for (String member : seen) due.yes("the document has " + member, wanted.contains(member));
+        language(due);
         due.end();
+    }
+
+    /** The rules of LANGUAGE.md that show in the compiled class. */
+    private static void language(Due due) {
+        Set<String> publicNames = new HashSet<>();
+        for (Method m : LogBook.class.getMethods()) publicNames.add(m.getName());
+        for (Method m : LogBook.class.getDeclaredMethods()) {
+            boolean hidden = Modifier.isPrivate(m.getModifiers());
+            due.no("rule 1: a public method has the name of the private " + m, hidden && publicNames.contains(m.getName()));
+            due.yes("rule 2: no lambda: " + m, !m.isSynthetic());
+            due.yes("rule 11: seven parameters: " + m, m.getParameterCount() <= 7);
+        }
+        int fields = 0;
+        for (Field f : LogBook.class.getDeclaredFields()) {
+            if (Modifier.isStatic(f.getModifiers())) {
+                due.yes("rule 5: final: " + f, Modifier.isFinal(f.getModifiers()));
+            } else {
+                fields++;
+            }
+        }
+        due.yes("rule 11: twenty fields", fields <= 20);
+        due.yes("rule 11: twelve classes", LogBook.class.getDeclaredClasses().length < 12);
     }
 }
